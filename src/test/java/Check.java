@@ -11,8 +11,8 @@ final class Check {
         }
     }
 
-    void holds(String what, boolean true_) {
-        due(what + " (1 if it holds)", true_ ? 1 : 0, 1);
+    void holds(String what, boolean condition) {
+        due(what + " (1 if it holds)", condition ? 1 : 0, 1);
     }
 
     /** Ends the test, with exit code 1 if an answer was wrong. */

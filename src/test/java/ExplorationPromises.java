@@ -67,6 +67,9 @@ public final class ExplorationPromises {
         explored(".;?a{&c;!d}{&c;!d}", 5, 5, 4, 0);
         // the same signals, but one of them is rejected
         explored(".;?b{.}{.;?a{!a}}", 2, 5, 4, 2);
+        SettledInstants x = Check.with(".;?b{!c}");
+        due("by a and b", x.states(0, 3, 1), 3);
+        due("by c, after it", x.states(0, 4, 1), 1);
         // a chain in which only the last state differs
         explored(Check.repeat(".;", 20) + "!a", 2, 22, 22, 0);
     }
@@ -111,6 +114,12 @@ public final class ExplorationPromises {
         due("ENDED: no signal", x.soon(0, 1, 1), NONE);
         due("ENDED: not rejected", x.soon(0, 1, 9), NONE);
         due("place 1 ends at once", x.soon(1, 1, 8), 1);
+        x = Check.with(".;!a", "!b|?a{!a}");
+        due("a", x.soon(0, 2, 0), 2);
+        due("the mask may have the signal behind", x.soon(0, 2, 2), NONE);
+        due("a rejected instant has no signals", x.soon(1, 4, 1), NONE);
+        due("a rejected instant has no next state", x.soon(1, 4, 8), NONE);
+        due("a rejected instant", x.soon(1, 4, 9), 1);
     }
 
     private static void soonAndFull() {

@@ -19,6 +19,7 @@ public final class InstantPromises {
         would();
         found();
         foundInParts();
+        foundUncertain();
         waits();
         ring();
         CHECK.end("InstantPromises");
@@ -76,6 +77,10 @@ public final class InstantPromises {
         course("^{^{.|x0;!c};!a};!b", 0, 3, 0);
         course("^{^{x0|x1};!a};!b", 0, 2, 0);
         course("^{.;x0|*{!a;.}};!b", 0, 1, 3, 0, 3, 0);
+        course("^{^{.|x1};.};&b", 0, 0, 4);
+        course("^{^{.|x0};.};&b", 0, 0, 2);
+        course("^{^{^{^{^{.|x4};.};.};.};.};.", 0, 0, 32);
+        course("^{^{^{^{^{.|x2};.};.};.};.};.", 0, 0, 8);
         course("^{^{^{^{^{x4};!a};!b};!c};!d};!e", 0, 16, 0);
         course("^{^{^{^{^{x2};!a};!b};!c};!d};!e", 0, 28, 0);
     }
@@ -95,6 +100,10 @@ public final class InstantPromises {
         course("~a{.;!b;.};!c", 1, 1, 1, 1, 7, 0);
         course("~a{.;!b;.};!c", 1, 1, 1, 0, 2, 2, 0, 4, 0);
         course("^{~a{.;x0};!b};!c", 0, 0, 1, 1, 5, 0);
+        course("^{@a{.;x0};.};&b", 0, 0, 1, 1, 1, 2);
+        course("^{~a{.;x0};.};&b", 0, 0, 1, 1, 1, 4);
+        course("@a{.;$b{?b{!b}}};.", 0, 0, 1, 1, 1, 2);
+        course("~a{.;$b{?b{!b}}};.", 0, 0, 1, 1, NOT, 1);
         course("@a{@b{.;.}|.};!c", 0, 0, 5, 2, 6, 0);
         course("@a{&c};!d|.;!a", 0, 0, 3, 0, 9, 0);
     }
@@ -108,6 +117,11 @@ public final class InstantPromises {
         course("$a{$a{!a};?a{!b}{!c}}", 0, 4, 0);
         course("$a{.;!a|&a;!b}", 0, 0, 3, 1, 3, 0);
         course("$a{$b{?a{!b}|?b{!c}|!a}}", 0, 4, 0);
+        course("$a{!a;?a{.}{.}}", 0, 0, 1);
+        course("$a{?a{.}{.}}", 1, 1, 2);
+        course("$a{!a;?b{.}{.}}", 2, 2, 1);
+        course("$a{?b{.}{.}}", 2, 2, 1);
+        course("$a{$b{!b;?b{!a}};?a{.}{.}}", 0, 0, 1);
     }
 
     private static void rejections() {
@@ -124,6 +138,9 @@ public final class InstantPromises {
         due("the local signal is not executed", x.instant(0, 0), 0);
         x = Check.with("!b;$a{?a{!a}};!c|^{x0;$a{?a{!a}}}");
         due("one local signal is executed", x.instant(0, 0), NOT);
+        x = Check.with("$a{?a{!a}}|.", ".|$a{?a{!a}}");
+        due("the left side is unsettled", x.instant(0, 0), NOT);
+        due("the right side is unsettled", x.instant(1, 0), NOT);
         x = Check.with("^{x0;$a{?a{!a}}}");
         due("behind an exit no local signal is executed", x.instant(0, 0), 0);
         // not certainly executed, so that the local signal stays unknown and b with it
@@ -153,6 +170,14 @@ public final class InstantPromises {
         x.instant(1, 0);
         due("back to START", x.undo(1), 0);
         due("START", x.state(1), START);
+        x = Check.with("*{" + Check.repeat(".;", 18) + ".}");
+        for (int k = 0; k < 30; k++) {
+            x.instant(0, 0);
+        }
+        for (int k = 28; k >= 9; k--) {
+            x.undo(0);
+            due("the state after " + (k + 1), x.state(0), 1 << k % 19);
+        }
     }
 
     private static void restart() {
@@ -217,6 +242,18 @@ public final class InstantPromises {
         due("only a local signal", x.would(0, 0, 1), 256);
         due("only a local signal: next", x.would(0, 0, 3), NOT);
         due("only a local signal: rounds", x.would(0, 0, 4), 2);
+        x = Check.with(".;.", "0");
+        x.instant(1, 0);
+        x.instant(0, 0);
+        due("another next state", x.would(0, 0, 3), 2);
+        due("another next state: code", x.would(0, 0, 2), 1);
+        due("ENDED: code, after another place", x.would(1, 0, 2), 0);
+        x.would(0, 0, 3);
+        due("ENDED: next, after another place", x.would(1, 0, 3), 0);
+        x = Check.with("?a{!a}", "0");
+        x.instant(1, 0);
+        due("rejected", x.would(0, 0, 1), 1);
+        due("ENDED: unsettled, after a rejected one", x.would(1, 0, 1), 0);
         x = Check.with("$h{?h{!h}}|?a{!a}");
         due("a local signal and another one", x.would(0, 0, 1), 1);
         rounds();
@@ -295,6 +332,46 @@ public final class InstantPromises {
         // what is known of the signal outside does not matter inside
         results(".;$a{?a{!b}{!c}}", 1, 0, 4, 4, 1, 1);
         results(".;$a{!a}", 0, 0, 0, 0, 1, 1);
+    }
+
+    /** A local signal in all places of a statement that is not certainly executed: b and c stay possible. */
+    private static void foundUncertain() {
+        String local = "$a{!a;?a{!b}{!c}}";
+        String[] uncertain = {
+            local, "0;" + local, local + ";0", "0|" + local, local + "|0", "^{" + local + "}", "^{*{" + local + ";.}}",
+            "@e{" + local + "}", "~e{" + local + "}", "?f{" + local + "}", "?g{0}{" + local + "}", "$h{" + local + "}",
+            "$h{!h;" + local + "}", "(0;" + local + ");0"};
+        for (String part : uncertain) {
+            for (String text : new String[] {"?d{" + part + "}", "?d{0}{" + part + "}", "0;?d{" + part + "}{" + part + "}"}) {
+                SettledInstants x = Check.with(text);
+                due(text + ": must", x.found(0, 32, 64, 0), 0);
+                due(text + ": can", x.found(0, 32, 64, 1), 6);
+            }
+            for (String text : new String[] {"&d;(" + part + ")", "*{&d;(" + part + ")}", "@d{.;(" + part + ")}"}) {
+                SettledInstants x = Check.with(text);
+                x.instant(0, 0);
+                due(text + ": must", x.found(0, 32, 64, 0), 0);
+                due(text + ": can", x.found(0, 32, 64, 1), 6);
+            }
+        }
+        resumingUncertain();
+    }
+
+    /** As above, but what is not certainly executed resumes. */
+    private static void resumingUncertain() {
+        String local = ".;$a{!a;?a{!b}{!c}}";
+        String[] uncertain = {
+            local, local + ";0", "0;(" + local + ")", "0|" + local, local + "|0", "^{" + local + "}", "*{" + local + "}",
+            "*{$a{!a;?a{!b}{!c}};.}", "@e{" + local + "}", "~e{" + local + "}", "?f{0}{" + local + "}", "$h{" + local + "}", "$h{.;!h}|" + local};
+        for (String part : uncertain) {
+            String text = "@d{" + part + "}";
+            SettledInstants x = Check.with(text);
+            x.instant(0, 0);
+            due(text + ": must", x.found(0, 0, 16, 0), 0);
+            due(text + ": can", x.found(0, 0, 16, 1), 6);
+            due(text + ": must if it is certain", x.found(0, 0, 24, 0), 2);
+            due(text + ": can if it is certain", x.found(0, 0, 24, 1), 2);
+        }
     }
 
     private static void waits() {

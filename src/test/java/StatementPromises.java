@@ -61,6 +61,12 @@ public final class StatementPromises {
         due("60 statements: the first", x.node(0, 0, 3), 59);
         due("60 statements: the last", x.node(0, 59, 5), 2);
         due("60 statements: the second", x.node(0, 1, 5), 30);
+        x = Check.with(Check.repeat("^{", 12) + "." + Check.repeat(";!a", 23) + Check.repeat("}", 12));
+        due("the deepest statement", x.node(0, 12, 5), 35);
+        due("it starts", x.instant(0, 0), 0);
+        due("it rests", x.state(0), 1);
+        due("it resumes", x.instant(0, 0), 1);
+        due("it ends", x.state(0), 0);
         x = Check.with(Check.repeat(".;", 19) + ".");
         due("20 pause points", x.node(0, 37, 2), (1 << 20) - 1);
         due("the last pause point", x.node(0, 38, 2), 1 << 19);
