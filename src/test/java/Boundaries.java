@@ -1,0 +1,74 @@
+import java.lang.reflect.InvocationTargetException;
+import java.lang.reflect.Method;
+import java.util.ArrayList;
+import java.util.Arrays;
+import java.util.Comparator;
+import java.util.List;
+
+/**
+ * Runs a test for each sentence of the document, at the boundaries that the sentence names, and looks
+ * whether every sentence has one. A test is a static method with a Sentence.
+ */
+public final class Boundaries {
+    private static final List<Class<?>> GROUPS = List.of(
+        TextBoundaries.class, FaultBoundaries.class, AnalysisBoundaries.class, InstantBoundaries.class,
+        ResultBoundaries.class, PlaceBoundaries.class, PromiseBoundaries.class, ExplorationBoundaries.class, StatementBoundaries.class);
+    /** Headings, signatures, and what is said of no answer. */
+    private static final List<String> WITHOUT = List.of(
+        "Signals and programs", "The text", "Codes", "The must/can analysis", "Instants", "Dependencies", "Exploration",
+        "Results and error codes", "Examples: Each of them begins with a new object; the results are given behind the calls",
+        "---- texts", "---- instants", "---- exploration", "---- statements");
+    private static final List<String> SECTIONS_WITHOUT = List.of("The public face", "Not promised");
+    /** Of the first section only this sentence speaks of a bound. */
+    private static final String CALLS = "An object is used for at most 512 calls";
+
+    public static void main(String[] args) throws Exception {
+        Check check = new Check();
+        List<Sentence> tested = new ArrayList<>();
+        for (Class<?> group : GROUPS) {
+            Method[] tests = group.getDeclaredMethods();
+            Arrays.sort(tests, Comparator.comparing(Method::getName));
+            for (Method test : tests) {
+                Sentence sentence = test.getAnnotation(Sentence.class);
+                if (sentence != null) {
+                    tested.add(sentence);
+                    run(test, sentence, check);
+                }
+            }
+        }
+        everySentenceIsTested(new Document(), tested, check);
+        System.out.println("Boundaries: " + tested.size() + " tests");
+        check.end("Boundaries");
+    }
+
+    private static void run(Method test, Sentence sentence, Check check) throws IllegalAccessException {
+        Check own = new Check(sentence.in() + ", \"" + sentence.words() + "\", " + test.getName() + ": ");
+        try {
+            test.setAccessible(true);
+            test.invoke(null, own);
+        } catch (InvocationTargetException thrown) {
+            own.holds("it ends, but " + thrown.getCause(), false);
+        }
+        own.holds("it asks something", own.asked() > 0);
+        check.add(own);
+    }
+
+    private static void everySentenceIsTested(Document document, List<Sentence> tested, Check check) {
+        for (Sentence test : tested) {
+            boolean stands = document.sentences(test.in()).stream().anyMatch(s -> s.contains(test.words()));
+            check.holds("\"" + test.words() + "\" stands in the section " + test.in(), stands);
+        }
+        for (String section : document.sections()) {
+            for (String sentence : document.sentences(section)) {
+                boolean has = tested.stream().anyMatch(t -> t.in().equals(section) && sentence.contains(t.words()));
+                check.holds(section + ", \"" + sentence + "\" has a test", has || isWithout(section, sentence));
+            }
+        }
+    }
+
+    private static boolean isWithout(String section, String sentence) {
+        boolean isSignature = sentence.startsWith("`") && sentence.endsWith("`");
+        boolean tellsWhatItIs = section.equals("What it is") && !sentence.startsWith(CALLS);
+        return isSignature || tellsWhatItIs || WITHOUT.contains(sentence) || SECTIONS_WITHOUT.contains(section);
+    }
+}
