@@ -88,7 +88,7 @@ final class AnalysisBoundaries {
 
     @Sentence(in = "Description", words = "If nothing else is said, this input is passed on unchanged, and where a single code or signal is given it is meant for must and can alike")
     static void passedOn(Check check) {
-        String[] around = {"s", "0;s", "s;0", "0|s", "s|0", "^{s}", "^{*{s;.}}", "@e{s}", "~e{s}", "?f{s}", "?g{0}{s}", "$h{s}"};
+        String[] around = {"s", "0;s", "s;0", "0|s", "s|0", "^{s}", "^{*{s;.}}", "@e{s}", "~e{s}", "?f{s}", "?g{0}{s}", "$h{s}", "$h{!h;s}"};
         for (String each : around) {
             String part = each.replace("s", LOCAL);
             SettledInstants x = Check.with("?d{" + part + "}");
@@ -338,6 +338,12 @@ final class AnalysisBoundaries {
         starting(check, "$a{?d{!a};?a{!b}{!c}}", 0, 0, 0, B | C, 0, 1);
         starting(check, "$a{?d{!a};?a{!b}{!c}}", D, 0, B, B, 1, 1);
         starting(check, "$a{?d{!a};?a{!b}{!c}}", 0, D, C, C, 1, 1);
+        // what is known of the other signals stays as it is
+        for (String local : new String[] {"$b{!b;?a{!c}{!d}}", "$b{?a{!c}{!d}}", "$h{!h;?a{!c}{!d}}", "$h{?a{!c}{!d}}"}) {
+            starting(check, local, 0, 0, 0, C | D, 0, 1);
+            starting(check, local, A, 0, C, C, 1, 1);
+            starting(check, local, 0, A, D, D, 1, 1);
+        }
     }
 
     @Sentence(in = "Description", words = "The last result counts; s is removed from its emitted signals")

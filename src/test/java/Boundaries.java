@@ -1,18 +1,18 @@
 import java.lang.reflect.InvocationTargetException;
 import java.lang.reflect.Method;
 import java.util.ArrayList;
-import java.util.Arrays;
 import java.util.Comparator;
 import java.util.List;
 
 /**
  * Runs a test for each sentence of the document, at the boundaries that the sentence names, and looks
- * whether every sentence has one. A test is a static method with a Sentence.
+ * whether every sentence has one. A test is a static method with a Sentence, after which it is named.
  */
 public final class Boundaries {
     private static final List<Class<?>> GROUPS = List.of(
         TextBoundaries.class, FaultBoundaries.class, AnalysisBoundaries.class, InstantBoundaries.class,
-        ResultBoundaries.class, PlaceBoundaries.class, PromiseBoundaries.class, ExplorationBoundaries.class, StatementBoundaries.class);
+        ResultBoundaries.class, PlaceBoundaries.class, PromiseBoundaries.class, ExplorationBoundaries.class,
+        StatementBoundaries.class);
     /** Headings, signatures, and what is said of no answer. */
     private static final List<String> WITHOUT = List.of(
         "Signals and programs", "The text", "Codes", "The must/can analysis", "Instants", "Dependencies", "Exploration",
@@ -24,25 +24,28 @@ public final class Boundaries {
 
     public static void main(String[] args) throws Exception {
         Check check = new Check();
-        List<Sentence> tested = new ArrayList<>();
+        Document document = new Document();
+        List<Method> tests = new ArrayList<>();
         for (Class<?> group : GROUPS) {
-            Method[] tests = group.getDeclaredMethods();
-            Arrays.sort(tests, Comparator.comparing(Method::getName));
-            for (Method test : tests) {
-                Sentence sentence = test.getAnnotation(Sentence.class);
-                if (sentence != null) {
-                    tested.add(sentence);
-                    run(test, sentence, check);
-                }
+            for (Method method : group.getDeclaredMethods()) {
+                if (method.isAnnotationPresent(Sentence.class)) tests.add(method);
             }
         }
-        everySentenceIsTested(new Document(), tested, check);
-        System.out.println("Boundaries: " + tested.size() + " tests");
+        tests.sort(Comparator.<Method>comparingInt(test -> document.indexOf(sentenceOf(test).in(), sentenceOf(test).words()))
+            .thenComparing(Method::getName));
+        for (Method test : tests) run(test, check);
+        everySentenceIsTested(document, tests.stream().map(Boundaries::sentenceOf).toList(), check);
+        System.out.println("Boundaries: " + tests.size() + " tests");
         check.end("Boundaries");
     }
 
-    private static void run(Method test, Sentence sentence, Check check) throws IllegalAccessException {
-        Check own = new Check(sentence.in() + ", \"" + sentence.words() + "\", " + test.getName() + ": ");
+    private static Sentence sentenceOf(Method test) {
+        return test.getAnnotation(Sentence.class);
+    }
+
+    private static void run(Method test, Check check) throws IllegalAccessException {
+        String name = sentenceOf(test).in() + ", \"" + sentenceOf(test).words() + "\", " + test.getName();
+        Check own = new Check(name + ": ");
         try {
             test.setAccessible(true);
             test.invoke(null, own);
@@ -51,6 +54,7 @@ public final class Boundaries {
         }
         own.holds("it asks something", own.asked() > 0);
         check.add(own);
+        System.out.println((own.wrong() == 0 ? "  ok: " : "  FAILED: ") + name);
     }
 
     private static void everySentenceIsTested(Document document, List<Sentence> tested, Check check) {

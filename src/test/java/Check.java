@@ -27,6 +27,10 @@ final class Check {
         wrong += test.wrong;
     }
 
+    int wrong() {
+        return wrong;
+    }
+
     int asked() {
         return asked;
     }

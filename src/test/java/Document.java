@@ -40,6 +40,18 @@ final class Document {
         return sections.keySet();
     }
 
+    /** Where the words stand in the document, counted in sentences; -1 if they stand nowhere in the section. */
+    int indexOf(String section, String words) {
+        int before = 0;
+        for (Map.Entry<String, List<String>> each : sections.entrySet()) {
+            for (int k = 0; k < each.getValue().size() && each.getKey().equals(section); k++) {
+                if (each.getValue().get(k).contains(words)) return before + k;
+            }
+            before += each.getValue().size();
+        }
+        return -1;
+    }
+
     List<String> sentences(String section) {
         return sections.getOrDefault(section, List.of());
     }

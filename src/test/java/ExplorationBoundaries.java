@@ -325,6 +325,12 @@ final class ExplorationBoundaries {
         parts(check, "?d{!d};.;!b", "?d{!d};.;!c", 1, NONE);
         parts(check, "*{!b;.}", "*{!b;.;!b;.}", 1, NONE);
         parts(check, "@a{.;!b};!c", "~a{.;!b};!c", 8, NONE);
+        // pairs of an earlier comparison are not looked at
+        SettledInstants x = Check.with("*{.;.;.}", "*{.;.}");
+        check.due("seven pairs", x.part(1), NONE);
+        Check.read(x, 0, "*{!b;.;.;.}");
+        Check.read(x, 1, "*{!b;.;.;.}");
+        check.due("four pairs behind them", x.part(1), NONE);
     }
 
     @Sentence(in = "Promise 16", words = "UNKNOWN if there is no program at one of the places")

@@ -30,6 +30,16 @@ final class InstantBoundaries {
             check.due("instant", x.instant(0, outside), outside);
             check.due("state", x.state(0), ENDED);
         }
+        // what was found for another program does not matter
+        x = Check.with("0", "!b;.|?a{!a}");
+        x.instant(0, 0);
+        int[] want = {4, 0, 0, ENDED, 0};
+        for (int what = 0; what < 5; what++) {
+            x.would(1, 1, 3);
+            check.due("behind one that rests: " + what, x.would(0, 4, what), want[what]);
+            x.would(1, 0, 3);
+            check.due("behind one that is rejected: " + what, x.would(0, 4, what), want[what]);
+        }
     }
 
     @Sentence(in = "Description", words = "In any other state, the signals from outside are present at first and all others unknown")
@@ -93,6 +103,11 @@ final class InstantBoundaries {
         check.course("(.|.;.);.", 0, 0, 3, 0, 0, 4, 0, 0, 8);
         check.course("^{^{x1|.};.};.", 0, 0, 4);
         check.course("^{^{x0|.};.};.", 0, 0, 2);
+        // an abort does not execute its block, a weak abort does
+        check.course("^{@a{.;x0};.};.", 0, 0, 1, A, A, 2);
+        check.course("^{~a{.;x0};.};.", 0, 0, 1, A, A, 4);
+        check.course("@a{.;" + LOOSE + "};.", 0, 0, 1, A, A, 2);
+        check.course("~a{.;" + LOOSE + "};.", 0, 0, 1, A, NOT, 1);
     }
 
     @Sentence(in = "Description", words = "if the block must emit it, it is present; if the block cannot emit it, it is absent; otherwise it is unsettled, too, which is reported as bit 8 alone")
@@ -104,6 +119,11 @@ final class InstantBoundaries {
         check.due("bit 8 alone", Check.with(LOOSE).would(0, 0, 1), 256);
         check.due("bit 8 alone, of two", Check.with(LOOSE + "|" + LOOSE).would(0, 7, 1), 256);
         check.due("another signal is unsettled, so that nothing is executed", Check.with(LOOSE + "|?b{!b}").would(0, 0, 1), B);
+        check.course(LOOSE + "|.", 0, NOT, START);
+        check.course(".|" + LOOSE, 0, NOT, START);
+        check.course("^{x0|" + LOOSE + "}", 0, NOT, START);
+        // its block is analysed as certainly executed, so that b is present and emits a
+        check.course("$a{$b{!b;?b{!a}};?a{.}{.}}", 0, 0, 1);
         SettledInstants x = Check.with("?a{" + LOOSE + "}{.;" + LOOSE + "}");
         check.due("executed", x.would(0, A, 1), 256);
         check.due("not executed", x.would(0, 0, 1), 0);

@@ -156,6 +156,25 @@ final class PromiseBoundaries {
         check.due("at the other place, too", Check.read(x, 1, "!d"), 0);
         check.due("it is executed", x.instant(1, 0), 8);
         check.due("the first place", x.count(0, 0), 60);
+        nothingOfOlderPrograms(check);
+    }
+
+    /** One object reads many programs, in which each number has many kinds of statements. */
+    private static void nothingOfOlderPrograms(Check check) {
+        String[] texts = {
+            ".;.;.;.;.;.", "0;0;0", "&h|&g|&f", "!a;!b", "?a{.}{.}", "?a{0}", "^{^{x1|.}};.", "0", "*{@b{~c{$d{.}}}}", "x0", "!c|!d|!e", ".", ")", "0|0"};
+        SettledInstants x = new SettledInstants();
+        for (int k = 0; k < 2 * texts.length; k++) {
+            String text = texts[k * 5 % texts.length];
+            SettledInstants fresh = new SettledInstants();
+            int answer = Check.read(fresh, k & 1, text);
+            check.due("program of " + text, Check.read(x, k & 1, text), answer);
+            for (int node = 0; node < fresh.count(k & 1, 0); node++) {
+                for (int what = 1; what < 6; what++) {
+                    check.due("node " + node + " of " + text + ", " + what, x.node(k & 1, node, what), fresh.node(k & 1, node, what));
+                }
+            }
+        }
     }
 
     @Sentence(in = "Promise 4", words = "its state is START, and nothing can be undone")

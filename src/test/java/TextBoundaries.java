@@ -86,8 +86,10 @@ final class TextBoundaries {
             int answer = letter == ' ' ? 1 : letter == '(' ? -102 : needsMore ? -101 : -100;
             check.text((char) letter + ".", answer, letter == ' ' ? 0 : 1);
         }
-        check.text("." + (char) 31, -101, 1);
-        check.text("." + (char) 33, -101, 1);
+        for (int letter = 0; letter < 256; letter++) {
+            int answer = letter == ' ' ? 1 : letter == ';' || letter == '|' ? -102 : -101;
+            check.text("." + (char) letter, answer, letter == ' ' ? 0 : 1);
+        }
         String tokens = "^{?a{!b;x0}{&c|.;$d{@e{~f{.}}}}};*{(.)}";
         SettledInstants x = Check.with(tokens, "  " + tokens.replaceAll("(.)", "$1  "));
         check.due("statements", x.count(0, 0), x.count(1, 0));
