@@ -1,12 +1,57 @@
-/** The four examples of the document, every call with its answer. */
+import java.io.IOException;
+import java.lang.reflect.Method;
+import java.nio.file.Files;
+import java.nio.file.Path;
+import java.util.regex.Matcher;
+import java.util.regex.Pattern;
+
+/** The four examples of the document, every call with its answer: as written here, and as read from the document. */
 public final class ExampleRuns {
-    public static void main(String[] args) {
+    private static final Path DOCUMENT = Path.of("../shared/DOC.md");
+    private static final Pattern NUMBER_OR_CALL = Pattern.compile("(?m)^(\\d)\\. |(\\w+)\\(([-\\d,\\s]*)\\)\\s*=\\s*(-?\\d+)");
+
+    public static void main(String[] args) throws ReflectiveOperationException, IOException {
         Check check = new Check();
         example1(check);
         example2(check);
         example3(check);
         example4(check);
+        int written = check.asked();
+        check.due("examples in the document", asInTheDocument(check), 4);
+        check.due("calls in the document", check.asked() - written - 1, written);
         check.end("ExampleRuns");
+    }
+
+    /** Makes every call that the document's examples show; returns the number of examples. */
+    private static int asInTheDocument(Check check) throws ReflectiveOperationException, IOException {
+        String document = Files.readString(DOCUMENT);
+        int begin = document.indexOf("\nExamples: ");
+        int end = document.indexOf("\nThe constructor and the methods follow", begin);
+        Matcher found = NUMBER_OR_CALL.matcher(document.substring(Math.max(begin, 0), Math.max(end, 0)));
+        SettledInstants x = new SettledInstants();
+        int examples = 0;
+        while (found.find()) {
+            if (found.group(1) != null) {
+                x = new SettledInstants();
+                examples++;
+            } else {
+                String call = "the document's " + examples + ": " + found.group();
+                check.due(call, answer(x, found.group(2), found.group(3)), Integer.parseInt(found.group(4)));
+            }
+        }
+        return examples;
+    }
+
+    private static int answer(SettledInstants x, String name, String arguments) throws ReflectiveOperationException {
+        String[] words = arguments.isBlank() ? new String[0] : arguments.strip().split(",\\s*");
+        Object[] values = new Object[words.length];
+        Class<?>[] types = new Class<?>[words.length];
+        for (int k = 0; k < words.length; k++) {
+            values[k] = Integer.valueOf(words[k]);
+            types[k] = int.class;
+        }
+        Method method = SettledInstants.class.getMethod(name, types);
+        return (int) method.invoke(x, values);
     }
 
     /** An await, then an emission. */
